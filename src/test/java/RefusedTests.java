@@ -89,8 +89,8 @@ public final class RefusedTests {
       put(to, g.count(7), g.count(3));
       for (int what : new int[] {0, 1, 2, 5, 6, 7}) to.add(g.boat(i % boats, what));
     }
-    put(to, g.undo(), g.blow(1, 99));
-    readNow(g, to);
+    put(to, g.undo(), g.blow(1, 99), g.count(7), g.count(3));
+    for (int i = 0; i < boats; i++) put(to, g.boat(i, 0), g.boat(i, 1), g.boat(i, 2));
   }
 
   private static void readImage(GunLine g, List<Integer> to) {
