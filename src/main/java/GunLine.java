@@ -642,16 +642,18 @@ public final class GunLine {
         }
 
         /** The byte at the place itself, a blank too. */
-        int rawSign() {
+        private int rawSign() {
             return at >= 0 && at < length && at < ROOM ? bytes[at] : NO_SIGN;
         }
 
         /** The next byte that is no blank; the place is there then, so that a refusal leaves it at the fault. */
         int nextSign() {
-            while (at < length && rawSign() == BLANK) {
-                at++;
+            for (; at >= 0 && at < length && at < ROOM; at++) {
+                if (bytes[at] != BLANK) {
+                    return bytes[at];
+                }
             }
-            return rawSign();
+            return NO_SIGN;
         }
 
         boolean take(int sign) {
