@@ -784,9 +784,67 @@ public final class ModelTests {
     }
   }
 
+  /** A short, narrow LINE with many BOATS, so that they meet, drift against one another and come over. */
+  static String crowd(Random r) {
+    int width = 2 + r.nextInt(3), many = 2 + r.nextInt(7);
+    String s = "lw" + width + "a" + r.nextInt(10) + "e" + r.nextInt(2) + "u" + r.nextInt(5) + "d" + r.nextInt(4) + "s" + (2 + r.nextInt(12)) + "f" + r.nextInt(2);
+    TreeSet<Integer> held = new TreeSet<>();
+    while (held.size() < many) held.add(r.nextInt(width) * 20 + r.nextInt(4 + many));
+    for (int cell : held) {
+      int most = 1 + r.nextInt(3);
+      s += ";bx" + cell / 20 + "y" + cell % 20 + "v" + r.nextInt(most + 1) + "m" + most + "z" + r.nextInt(10) + (r.nextBoolean() ? "r" + r.nextInt(5) : "");
+    }
+    return s;
+  }
+
+  static void looks(Pair p) {
+    GunLine g = p.g;
+    Model m = p.m;
+    for (int b = 0; b < m.now.boats.size(); b++) {
+      for (int w = 0; w < 6; w++) p.same("ahead(" + b + ", " + w + ")", g.ahead(b, w), m.ahead(b, w));
+      for (int w = 0; w < 2; w++) {
+        p.same("where(" + b + ", " + w + ")", g.where(b, w), m.where(b, w));
+        p.same("near(" + b + ", " + w + ")", g.near(b, w), m.near(b, w));
+        p.same("hold(" + b + ", " + w + ")", g.hold(b, w), m.hold(b, w));
+      }
+      p.same("row(" + b + ", 1)", g.row(b, 1), m.row(b, 1));
+      p.same("row(" + b + ", 4)", g.row(b, 4), m.row(b, 4));
+      p.same("hole(" + b + ")", g.hole(b), m.hole(b));
+      p.same("keeps(" + b + ")", g.keeps(b), m.keeps(b));
+      p.same("flag(" + b + ")", g.flag(b), m.flag(b));
+    }
+    for (int t = 0; t < 3; t++) {
+      p.same("sag(" + t + ")", g.sag(t), m.sag(t));
+      p.same("heap(" + t + ")", g.heap(t), m.heap(t));
+      p.same("which(" + t + ")", g.which(t), m.which(t));
+      p.same("rests(" + t + ")", g.rests(t), m.rests(t));
+    }
+  }
+
+  /** All that can be looked at, ahead of some ACTS and behind them. */
+  static void crowded(int run) {
+    Random r = new Random(run);
+    Pair p = new Pair(run);
+    GunLine g = p.g;
+    Model m = p.m;
+    for (String rule : new String[] {"y:b-t", "y:w=1?1;y:c>2?0-1;y:t<6?1", "y:l=1?0-1;y:1"}) { p.feed(rule); p.same("text(1)", g.text(1), m.text(1)); }
+    p.feed(crowd(r));
+    p.same("text(0)", g.text(0), m.text(0));
+    looks(p);
+    for (int i = 0; i < 6; i++) {
+      int b = r.nextInt(m.now.boats.size()), k = r.nextInt(4) - 1;
+      p.same("speed(" + b + ", " + k + ")", g.speed(b, k), m.speed(b, k));
+      p.same("rule(" + b + ", " + k + ")", g.rule(b, k), m.rule(b, k));
+      p.same("steer(" + b + ", 1)", g.steer(b, 1), m.steer(b, 1));
+      if (i % 3 == 0) p.same("mark(" + b + ")", g.mark(b), m.mark(b));
+      if (i % 3 == 1) p.same("go(" + k + ")", g.go(k), m.go(k, false, 0));
+    }
+    looks(p);
+  }
+
   public static void main(String[] args) {
     int runs = args.length > 0 ? Integer.parseInt(args[0]) : 900;
-    for (int i = 0; i < runs; i++) { texts(i); run(i); }
+    for (int i = 0; i < runs; i++) { texts(i); run(i); crowded(i); }
     System.out.println(wrong == 0 ? runs + " runs are as the model's" : wrong + " answers are not as the model's");
     if (wrong != 0) System.exit(1);
   }
